@@ -132,6 +132,15 @@ public final class PromiseTest {
         due("3: so it is cut less", z.cut(4, 1, 1), 2130 * 576 * 4 + 2);
         due("3: 9216 pieces of a zone go", z.cut(3, 4, 4), 2130 * 9216 + 2);
         due("3: twice as many do not", z.cut(4, 1, 2), -3);
+        z.cut(3, 1, 1);
+        z.cut(1, 5, 5);
+        z.cut(2, 5, 5);
+        due("3: 9375 pieces of a zone go", z.cut(3, 5, 3), 2130 * 9375 + 2);
+        z.cut(3, 5, 1);
+        z.cut(2, 5, 4);
+        due("3: 10000 do not", z.cut(3, 5, 4), -3);
+        z.cut(2, 4, 4);
+        due("3: 9600 do not", z.cut(3, 6, 4), -3);
         z.store(0, 0, 1900);
         due("3: -2 ahead of -3", z.cut(4, 6, 6), -2);
 
@@ -158,6 +167,9 @@ public final class PromiseTest {
         due("5: the north pole", x.key(324000, 1295999, 4), 0);
         due("5: the south pole", x.key(-324000, 0, 4), 545281);
         due("5: just below the north cap", x.key(316799, 86400, 0), 2);
+        due("5: the north cap's south edge", x.key(316800, 86400, 0), 0);
+        due("5: the last band's south edge", x.key(-316800, 86400, 0), 2117);
+        due("5: just below it", x.key(-316801, 86400, 0), 2131);
         due("5: a band's south edge is its own", x.key(14400, 0, 0), 946);
         due("5: a band's north edge is not", x.key(14399, 0, 0), 1006);
         due("5: the last zone", x.key(0, 1295999, 0), 1065);
@@ -184,6 +196,8 @@ public final class PromiseTest {
         dueName(x, 0, 1, "NV1");
         dueName(x, 0, 2130, "SV15");
         dueName(x, 0, 1065, "NA60");
+        dueName(x, 0, 1014, "NA9");
+        dueName(x, 0, 1015, "NA10");
         dueName(x, 0, 1066, "SA1");
         dueName(x, 1, 4021, "NA1-1");
         dueName(x, 1, 4022, "NA1-2");
@@ -212,6 +226,10 @@ public final class PromiseTest {
         due("8: south edge below the equator, top", q.edge(3, key, 0), -400);
         due("8: south edge, bottom", q.edge(3, key, 1), 3);
         due("8: north edge", q.edge(3, key, 2), 0);
+        due("8: a north edge, top", q.edge(3, q.key(0, 0, 3), 2), 400);
+        due("8: a north edge, bottom", q.edge(3, q.key(0, 0, 3), 3), 3);
+        due("8: a west edge, bottom", q.edge(3, q.key(0, 21599, 3), 5), 1);
+        due("8: a cap's south", q.edge(3, 0, 0), 316800);
         due("8: north edge, bottom", q.edge(3, key, 3), 1);
         due("8: west", x.edge(0, 1065, 4), 1274400);
         due("8: east of the last", x.edge(0, 1065, 6), 1296000);
@@ -234,6 +252,11 @@ public final class PromiseTest {
         due("7: a cap's level", named(x, "SZ", 0), 0);
         due("7: a cap's key", named(x, "SZ", 1), 2131);
         due("7: the tape is empty then", x.count(1), 0);
+        due("7: pieces of each level", named(x, "SB37-4-3-2-1", 1), x.key(-26100, 36 * 21600 + 14849, 4));
+        feed(x, "NA1-3");
+        due("7: the first n bytes alone", x.named(4, 0), -1004);
+        feed(x, "NA1-3");
+        due("7: and of these all", x.named(3, 1), 1006);
         due("7: no half", named(x, "XA1", 0), -1000);
         due("7: a small letter", named(x, "na1", 0), -1000);
         due("7: no letter W", named(x, "NW1", 0), -1001);
@@ -275,6 +298,8 @@ public final class PromiseTest {
         due("7: and is read", x.named(3, 1), 1006);
         feed(x, "NA1-1-1-1-1bbbbbbbbbbbbbbbbbbbbbbbbbbbbb");
         due("7: 40 bytes", x.named(40, 1), -1011);
+        feed(x, "NA1-1-1-1-1bbbbbbbbbbbbbbbbbbbbbbbbbbbbbb");
+        due("7: 41 bytes", x.named(41, 1), -1);
     }
 
     private static void promises9To14() {
@@ -328,6 +353,7 @@ public final class PromiseTest {
         due("12: its own level", x.parent(1, 4141, 1), 4141);
         due("12: four levels above", x.parent(4, x.key(-100000, 777777, 4), 0), x.key(-100000, 777777, 0));
         due("12: of the south cap", x.parent(4, 545281, 2), x.level(2, 0) - 1);
+        due("12: beside the south cap", x.parent(2, x.key(-316800, 90000, 2), 0), 2117);
         due("12: of the north cap", x.parent(4, 0, 0), 0);
         due("12: a deeper one", x.parent(1, 4141, 2), -1);
         due("12: to -1", x.parent(1, 4141, -1), -1);
@@ -341,6 +367,8 @@ public final class PromiseTest {
         due("13: the last", x.child(0, 1006, 2, 15), x.key(0, 21599, 2));
         due("13: beyond", x.child(0, 1006, 2, 16), -2);
         due("13: a cap has one", x.child(0, 2131, 4, -1), 1);
+        due("13: the north cap's", x.child(1, 0, 4, 0), 0);
+        due("13: east of the first", x.child(1, 4160, 2, 0), x.key(7199, 19 * 10800, 2));
         due("13: a cap's", x.child(0, 2131, 4, 0), 545281);
         due("13: a cap's second", x.child(0, 2131, 4, 1), -2);
         due("13: a level above", x.child(1, 5, 0, 0), -1);
@@ -459,15 +487,14 @@ public final class PromiseTest {
 
         due("21: of the south cap", x.farthest(0, 2131, 0), 45);
         due("21: its key", x.farthest(0, 2131, 1), 0);
-        int far = x.farthest(0, 1006, 1);
-        due("21: steps to it", x.steps(0, 1006, far), x.farthest(0, 1006, 0));
-        due("21: none is farther", x.reach(0, 1006, x.farthest(0, 1006, 0)), 2132);
-        due("21: some are as far", x.reach(0, 1006, x.farthest(0, 1006, 0) - 1) < 2132 ? 1 : 0, 1);
-        int nearer = 0;
-        for (int key = 1900; key < far; key++) {
-            nearer += x.steps(0, 1006, key) < x.farthest(0, 1006, 0) ? 0 : 1;
-        }
-        due("21: the least of like ones", nearer, 0);
+        due("21: of a sheet on the equator", x.farthest(0, 1006, 0), 38);
+        due("21: there is one", x.reach(0, 1006, 37), 2131);
+        due("21: its key", x.farthest(0, 1006, 1), 1516);
+        due("21: beside the cap", x.farthest(0, 1, 0), 45);
+        due("21: the least of like ones", x.farthest(0, 1, 1), 2118);
+        due("21: it has as many steps", x.steps(0, 1, 2118), 45);
+        due("21: so has another one", x.steps(0, 1, 2119), 45);
+        due("21: the one ahead has not", x.steps(0, 1, 2117), 44);
         due("21: what 2", x.farthest(0, 0, 2), -1);
         due("21: key", x.farthest(0, -1, 0), -1);
         due("21: too many sheets", x.farthest(2, 0, 0), -3);
@@ -496,12 +523,15 @@ public final class PromiseTest {
         due("22: i below NONE", x.corners(0, 1065, -2), -1);
         due("22: key", x.corners(0, 2132, 0), -1);
         due("22: level", x.corners(-1, 0, 0), -1);
+        dueAll("22: below a jog, going round", corners(x, 1, 181), 180, 242, 300);
 
         due("23: no jog to the north", x.jog(0, 1006, 0), 0);
         due("23: a jog to the south", x.jog(0, 45, 2), 1);
         due("23: not to its north", x.jog(0, 45, 0), 0);
         due("23: a jog to the north", x.jog(0, 46, 0), 1);
         due("23: to the cap", x.jog(0, 1, 0), 1);
+        due("23: to the south cap", x.jog(0, 2130, 2), 1);
+        due("23: a row ahead of a jog", x.jog(0, 30, 2), 0);
         due("23: from the cap", x.jog(0, 2131, 0), 1);
         due("23: behind a cap there is no row", x.jog(0, 0, 0), 0);
         due("23: inside a band", x.jog(1, x.key(-216001, 0, 1), 2), 0);
@@ -527,6 +557,8 @@ public final class PromiseTest {
         dueAll("24: ends are not beyond", box(x, 0, 14399, 0, 21599, 0), 1006);
         dueAll("24: over lon 0", box(x, 0, 0, 1295999, 0, 0), 1065, 1006);
         dueAll("24: with the cap", box(x, 316799, 316800, 86400, 172800, 0), 0, 2, 3);
+        dueAll("24: rows of a level from the north", box(x, -1, 14400, 1295999, 0, 1), 4020, 3901, 4140, 4021, 4260, 4141,
+                4380, 4261);
         dueAll("24: with the south cap", box(x, -316801, -316800, 1295999, 1295999, 0), 2130, 2131);
         due("24: round, both ends in one sheet", x.box(0, 0, 5, 4, 0, -1), 60);
         due("24: its first", x.box(0, 0, 21605, 21604, 0, 0), 1007);
@@ -596,6 +628,13 @@ public final class PromiseTest {
         due("25: a above b", x.cover(1, 0, 0, 0, 0, 0), -1);
         due("25: level", x.cover(0, 0, 0, 0, -1, 0), -1);
         due("25: no lon", x.cover(0, 0, 1296000, 0, 0, 0), -1);
+        SheetNames z = uncut();
+        z.cut(1, 6, 4);
+        z.cut(2, 6, 1);
+        due("25: 4000 sheets", z.cover(284800, 316799, 0, 50 * 21600 - 1, 2, 0), z.key(316799, 0, 0));
+        due("25: 4001 sheets", z.cover(284800, 316800, 0, 50 * 21600 - 1, 2, 0), -2);
+        due("35: 4000 sheets", z.lacks(284800, 316799, 0, 50 * 21600 - 1, 2, 0, -1), 4000);
+        due("35: 4001 sheets", z.lacks(284800, 316800, 0, 50 * 21600 - 1, 2, 0, -1), -2);
         dueAll("25: three levels", cover(x, 0, 14399, 0, 32400, 2), 1006, deep + 4023, deep + 4143,
                 2 * deep + x.key(14399, 32400, 2), 2 * deep + x.key(10799, 32400, 2),
                 2 * deep + x.key(7199, 32400, 2), 2 * deep + x.key(3599, 32400, 2));
@@ -622,6 +661,8 @@ public final class PromiseTest {
         due("28: behind", x.before(0, 1007, 1015), 1);
         due("28: what ends sooner is ahead", x.before(0, 1006, 1015), -1);
         due("28: itself", x.before(0, 77, 77), 0);
+        due("28: another longer one", x.before(0, 1020, 1006), 1);
+        due("28: leaves nothing behind", x.before(0, 1006, 1015), -1);
         due("28: N ahead of S", x.before(0, 2130, 0), 1);
         due("28: NZ behind NV", x.before(0, 0, 1), 1);
         due("28: - ahead of a digit", x.before(1, x.key(0, 0, 1), x.key(0, 9 * 21600, 1)), -1);
@@ -637,6 +678,7 @@ public final class PromiseTest {
         due("29: far to the west", x.moved(0, 0, 0, LEAST, 0), x.key(0, Math.floorMod(LEAST, 1296000), 0));
         due("29: to the pole", x.moved(323999, 0, 1, 0, 0), 0);
         due("29: beyond it", x.moved(323999, 0, 2, 0, 0), -3);
+        due("29: to the south pole", x.moved(0, 0, -324000, 0, 0), 2131);
         due("29: beyond the south pole", x.moved(-324000, 0, -1, 0, 0), -3);
         due("29: lat no int", x.moved(1, 0, MOST, 0, 0), -2);
         due("29: lat just an int", x.moved(1, 0, MOST - 1, 0, 0), -3);
@@ -711,6 +753,10 @@ public final class PromiseTest {
         feed(x, text.toString());
         due("30: n 101 of so many", x.ask(101), -1);
         due("30: n 100", x.ask(100), -1017);
+        feed(x, "Xaaaaaaaaaaaaaaaaaaa");
+        due("30: n 1", x.ask(1), -1001);
+        feed(x, "steps NA1-1-1 NA1-01");
+        due("30: all of the tape", x.ask(20), -2);
         feed(x, "steps NA1-1-1-1-1 SA60-4-4-4-4 and more");
         due("30: the first n bytes alone", x.ask(30), -3);
     }
@@ -725,6 +771,8 @@ public final class PromiseTest {
         due("31: so its key", x.piece(1, 1), 2131);
         due("31: so its level", x.piece(1, 0), 0);
         due("31: the cap again, by level 1", x.store(1, 8521, 2000), 3);
+        due("31: the north cap by level 2", x.store(2, 0, 2000), 4);
+        due("31: is there as of level 0", x.drop(0, 0), 2000);
         due("31: year 1799", x.store(0, 1, 1799), -1);
         due("31: year 2101", x.store(0, 1, 2101), -1);
         due("31: key", x.store(0, 2132, 2000), -1);
@@ -747,6 +795,11 @@ public final class PromiseTest {
         due("34: none, level", x.shown(14400, 0, 1), -2);
         due("34: none, year", x.shown(14400, 0, 2), -2);
         due("34: a cap", x.shown(-324000, 1295999, 1), 0);
+        x.store(4, x.key(-1, 0, 4), 1999);
+        due("34: of level 4", x.shown(-1, 0, 1), 4);
+        due("34: by that alone", x.shown(-900, 1349, 0), 1);
+        due("34: not beside it", x.shown(-901, 1349, 0), 0);
+        x.drop(4, x.key(-1, 0, 4));
         due("34: the other cap", x.shown(324000, 0, 0), 0);
         due("34: no place", x.shown(324001, 0, 0), -1);
         due("34: what 3", x.shown(0, 0, 3), -1);
@@ -835,6 +888,11 @@ public final class PromiseTest {
 
         SheetNames y = new SheetNames();
         due("39: an empty store", y.tidy(), 0);
+        y.store(3, 5, 1900);
+        due("38: the only one", y.oldest(3, 0), 5);
+        due("37: the only one", y.renew(3, 1901), 1);
+        due("38: its year", y.oldest(3, 1), 1901);
+        y.drop(3, 5);
         y.store(0, 1006, 1950);
         y.store(1, 4141, 1950);
         y.store(1, 4142, 1951);
@@ -878,6 +936,11 @@ public final class PromiseTest {
                 due("41: drawn " + seed + " " + many, x.drawn(seed, many, 1), drawn(x, seed, many, 1));
             }
         }
+        int unlike = 0;
+        for (int seed = 0; seed < 2000; seed++) {
+            unlike += x.drawn(seed, 200, 0) == drawn(x, seed, 200, 0) ? 0 : 1;
+        }
+        due("41: of 2000 seeds so many are wrong", unlike, 0);
         due("41: the lowest 16 bits alone", x.drawn(5 + 65536 * 7, 200, 2), x.drawn(5, 200, 2));
         due("41: one place", x.drawn(-1, 1, 4), 1);
         due("41: n 0", x.drawn(1, 0, 0), -1);
@@ -940,6 +1003,9 @@ public final class PromiseTest {
         x.drop(0, 6);
         x.cut(1, 3, 3);
         named(x, "NA1-9", 0);
+        named(x, "NA0", 0);
+        named(x, "N", 0);
+        named(x, "NB1", 0);
         feed(x, "NB");
         due("45: undo", x.undo(), 1);
         due("45: the cuts are as they were", x.level(1, 0) + x.level(4, 4), 8522 + 16);
@@ -947,12 +1013,25 @@ public final class PromiseTest {
         due("45: the tape is not kept", x.count(1), 20);
         due("45: texts without a fault", x.count(3), 2);
         due("45: texts with one", x.count(4), 5);
+        due("45: ended too soon", x.count(5), 2);
+        due("45: with fault 2", x.count(6), 1);
         due("45: undo again", x.undo(), 0);
         due("45: the first state", x.piece(0, 2), 2000);
         due("45: its pieces", x.count(0), 1);
-        due("45: its texts", x.count(6), 1);
+        due("45: its texts", x.count(3) * 1000 + x.count(4) * 100 + x.count(5) * 10 + x.count(6), 2421);
+        due("45: its level", x.piece(0, 0), 0);
         due("45: the tape is as it is", x.named(2, 1), -1002);
         due("45: none is left", x.undo(), -1);
+        x.drop(0, 5);
+        x.store(2, 77, 1999);
+        x.keep();
+        x.drop(2, 77);
+        x.store(0, 77, 1888);
+        named(x, "NB2", 0);
+        x.undo();
+        due("45: the piece's level", x.piece(0, 0), 2);
+        due("45: the piece's year", x.piece(0, 2), 1999);
+        due("45: texts without a fault again", x.count(3), 2);
         for (int i = 1; i <= 8; i++) {
             due("44: up to 8", x.keep(), i);
         }
