@@ -1604,13 +1604,14 @@ public final class SheetNames {
             if (word == NONE) {
                 return reader.fail(CAN_NOT_STAND, 0);
             }
-            int nameEnd = word == STEPS || word == BETWEEN ? tape.blankFrom(blank + 1, end) : end;
+            boolean hasTwo = word == STEPS || word == BETWEEN;
+            int nameEnd = hasTwo ? tape.blankFrom(blank + 1, end) : end;
             if (!reader.read(blank + 1, nameEnd)) {
                 return false;
             }
             level = reader.level;
             key = reader.key;
-            return word != STEPS && word != BETWEEN || readOther(nameEnd + 1, end);
+            return !hasTwo || readOther(nameEnd + 1, end);
         }
 
         private boolean readOther(int from, int end) {
