@@ -1,9 +1,7 @@
 import java.util.TreeSet;
 
 /** For each promise of the document: ordinary inputs, the edges that it names, wrong inputs. */
-public final class PromiseTest {
-    private static final int LEAST = Integer.MIN_VALUE;
-    private static final int MOST = Integer.MAX_VALUE;
+public final class PromiseTest extends Calls {
     private static int right = 0;
     private static int wrong = 0;
 
@@ -40,37 +38,6 @@ public final class PromiseTest {
 
     // ---- helpers
 
-    /** Puts a text on the tape, up to the next whole call of feed() with b behind it. */
-    private static void feed(SheetNames x, String text) {
-        for (int i = 0; i < text.length(); i += 20) {
-            int[] four = new int[5];
-            for (int k = 0; k < 20; k++) {
-                char sign = i + k < text.length() ? text.charAt(i + k) : 'b';
-                four[k / 4] = four[k / 4] << 8 | sign;
-            }
-            x.feed(four[0], four[1], four[2], four[3], four[4]);
-        }
-    }
-
-    private static int named(SheetNames x, String text, int what) {
-        feed(x, text);
-        return x.named(text.length(), what);
-    }
-
-    private static int ask(SheetNames x, String text) {
-        feed(x, text);
-        return x.ask(text.length());
-    }
-
-    private static String name(SheetNames x, int level, int key) {
-        StringBuilder out = new StringBuilder();
-        int many = x.name(level, key, -1);
-        for (int i = 0; i < many; i++) {
-            out.append((char) x.name(level, key, i));
-        }
-        return out.toString();
-    }
-
     private static void dueName(SheetNames x, int level, int key, String want) {
         String got = name(x, level, key);
         due("name of " + key + " at " + level + ", " + got + " for " + want, got.equals(want) ? 1 : 0, 1);
@@ -78,14 +45,6 @@ public final class PromiseTest {
 
     private static void dueAll(String call, int[] got, int... want) {
         due(call + " (all)", java.util.Arrays.equals(got, want) ? 1 : 0, 1);
-    }
-
-    private static SheetNames uncut() {
-        SheetNames x = new SheetNames();
-        for (int level = 1; level <= 4; level++) {
-            x.cut(level, 1, 1);
-        }
-        return x;
     }
 
     // ---- the promises
@@ -386,22 +345,6 @@ public final class PromiseTest {
         due("14: no first place", x.common(324001, 0, 0, 0), -1);
     }
 
-    private static int[] neighbours(SheetNames x, int level, int key, int side) {
-        int[] out = new int[x.neighbour(level, key, side, -1)];
-        for (int i = 0; i < out.length; i++) {
-            out[i] = x.neighbour(level, key, side, i);
-        }
-        return out;
-    }
-
-    private static int[] around(SheetNames x, int level, int key) {
-        int[] out = new int[x.around(level, key, -1)];
-        for (int i = 0; i < out.length; i++) {
-            out[i] = x.around(level, key, i);
-        }
-        return out;
-    }
-
     private static void promises15To17() {
         SheetNames x = new SheetNames();
         dueAll("15: east at the date line", neighbours(x, 0, 1065, 1), 1006);
@@ -501,14 +444,6 @@ public final class PromiseTest {
         due("21: NONE ahead", x.farthest(2, 0, -1), -1);
     }
 
-    private static int[] corners(SheetNames x, int level, int key) {
-        int[] out = new int[x.corners(level, key, -1)];
-        for (int i = 0; i < out.length; i++) {
-            out[i] = x.corners(level, key, i);
-        }
-        return out;
-    }
-
     private static void promises22And23() {
         SheetNames x = new SheetNames();
         dueAll("22: going round", corners(x, 0, 1065), 946, 1004, 1066, 1124);
@@ -540,14 +475,6 @@ public final class PromiseTest {
         due("23: side 3", x.jog(0, 45, 3), -1);
         due("23: side -1", x.jog(0, 45, -1), -1);
         due("23: key", x.jog(0, 2132, 0), -1);
-    }
-
-    private static int[] box(SheetNames x, int a, int b, int w, int e, int level) {
-        int[] out = new int[x.box(a, b, w, e, level, -1)];
-        for (int i = 0; i < out.length; i++) {
-            out[i] = x.box(a, b, w, e, level, i);
-        }
-        return out;
     }
 
     private static void promises24To26() {
@@ -597,14 +524,6 @@ public final class PromiseTest {
         due("26: key", x.between(0, 2132, 0), -1);
         due("26: other key", x.between(0, 0, -1), -1);
         due("26: level", x.between(5, 0, 0), -1);
-    }
-
-    private static int[] cover(SheetNames x, int a, int b, int w, int e, int level) {
-        int[] out = new int[x.cover(a, b, w, e, level, -1)];
-        for (int i = 0; i < out.length; i++) {
-            out[i] = x.cover(a, b, w, e, level, i);
-        }
-        return out;
     }
 
     private static void promise25() {
@@ -822,14 +741,6 @@ public final class PromiseTest {
         due("31: NONE ahead of -2", x.store(0, 1, 2101), -1);
         due("31: in place of one", x.store(0, 1065, 2001), 60);
         due("31: that year", x.piece(59, 2), 2001);
-    }
-
-    private static int[] lacks(SheetNames x, int a, int b, int w, int e, int level, int year) {
-        int[] out = new int[x.lacks(a, b, w, e, level, year, -1)];
-        for (int i = 0; i < out.length; i++) {
-            out[i] = x.lacks(a, b, w, e, level, year, i);
-        }
-        return out;
     }
 
     private static void promises35To39() {
