@@ -41,6 +41,13 @@ public final class BoundaryOfNeighboursTest extends Sentences {
         due(x.key(-316801, 0, 1), 8521);
         due(x.level(1, 0), 8522);
 
+        x = told(TERMS, "row by row from the north, in a row from LON 0 on");
+        rowsOfBandsAreInOrder(x, 16);
+        x = cut(told(TERMS, "row by row from the north, in a row from LON 0 on"), 6, 1, 6, 1, 6, 1, 6, 1);
+        rowsOfBandsAreInOrder(x, 1296);
+        x = cut(told(TERMS, "row by row from the north, in a row from LON 0 on"), 1, 6, 1, 6, 1, 6, 1, 6);
+        rowsOfBandsAreInOrder(x, 1);
+
         x = told(TERMS, "all together 44 times that; and both CAPS: ROW 0 is THE NORTH CAP");
         due(x.level(0, 1), 46);
         due(x.level(1, 1), 90);
@@ -52,6 +59,24 @@ public final class BoundaryOfNeighboursTest extends Sentences {
         due(x.at(1, 1, 0), 1);
         due(x.at(1, x.level(1, 0) - 2, 0), 264);
         due(x.at(1, x.level(1, 0) - 1, 0), 265);
+    }
+
+    /** The ends of the first, the last and one other ROW of each BAND at LEVEL 4. */
+    private static void rowsOfBandsAreInOrder(SheetNames x, int rows) {
+        int ahead = 1;
+        for (int band = 21; band >= -22; band--) {
+            int first = (21 - band) * rows + 1;
+            int length = x.at(4, x.keyAt(4, first, 0), 2);
+            int inside = ahead + rows / 2 * length;
+            due(x.at(4, ahead, 0), first);
+            due(x.at(4, ahead + length - 1, 1), length - 1);
+            due(x.at(4, inside, 0), first + rows / 2);
+            due(x.at(4, inside + length - 1, 0), first + rows / 2);
+            ahead += rows * length;
+            due(x.at(4, ahead - length, 1), 0);
+            due(x.at(4, ahead - 1, 0), first + rows - 1);
+        }
+        due(ahead, x.level(4, 0) - 1);
     }
 
     private static void whatANeighbourIs() {
